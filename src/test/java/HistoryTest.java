@@ -1,0 +1,195 @@
+/** Promises 15 (undo), 16 (keep) and 17 (restore). */
+public final class HistoryTest {
+    private static final int NONE = HutBookings.NONE;
+    private static final int TOLD = 35;
+
+    private static final Due due = new Due("HistoryTest");
+
+    public static void main(String[] args) {
+        undoGoesBackFourStates();
+        undoBringsAllBack();
+        onlyActsAreRecorded();
+        restoreBringsAllBack();
+        keepReplaces();
+        restoreIsAnAct();
+        due.end();
+    }
+
+    private static void undoGoesBackFourStates() {
+        HutBookings hut = new HutBookings();
+        due.is("none", hut.undo(), NONE);
+        for (int i = 1; i <= 6; i++) {
+            hut.order(1, i);
+            due.is("states", hut.count(23), Math.min(i, 4));
+        }
+        for (int left = 3; left >= 0; left--) {
+            due.is("undo", hut.undo(), left);
+            due.is("orders", hut.count(11), left + 2);
+        }
+        due.is("none more", hut.undo(), NONE);
+        due.is("orders", hut.count(11), 2);
+        hut.order(1, 50);
+        hut.undo();
+        due.is("the last of those", hut.waiting(1, 1), 2);
+        due.is("none behind it", hut.waiting(2, 1), NONE);
+    }
+
+    /** A hut in which there is some of all. */
+    private static HutBookings busyHut() {
+        HutBookings hut = new HutBookings();
+        hut.set(0, 6);
+        hut.set(1, 2);
+        hut.weather(1, 3, 2);
+        hut.weather(4, 4, 5);
+        hut.book(0, 1, 4);
+        hut.book(1, 2, 3);
+        hut.book(1, 4, 3);
+        hut.book(20, 2, 2);
+        hut.book(21, 2, 2);
+        hut.cancel(4);
+        hut.order(0, 30);
+        hut.order(1, 25);
+        hut.order(0, 10);
+        hut.pass(3);
+        hut.flight(true);
+        return hut;
+    }
+
+    private static long[] allTold(HutBookings hut) {
+        long[] told = new long[TOLD + 4 + 9 * 8 + 5 * 30 + 20 + 20];
+        int at = 0;
+        for (int what = 0; what < TOLD; what++) {
+            told[at++] = what == 23 || what == 24 ? 0 : hut.count(what);
+        }
+        for (int what = 0; what < 4; what++) {
+            told[at++] = hut.coins(what);
+        }
+        for (int i = 0; i < 9 * 8; i++) {
+            told[at++] = hut.booking(i / 9, i % 9);
+        }
+        for (int i = 0; i < 5 * 30; i++) {
+            told[at++] = hut.day(i / 5, i % 5);
+        }
+        for (int i = 0; i < 20; i++) {
+            told[at++] = hut.fresh(i / 2, i % 2);
+        }
+        for (int i = 0; i < 20; i++) {
+            told[at++] = hut.waiting(i / 2, i % 2);
+        }
+        return told;
+    }
+
+    private static void same(String name, HutBookings hut, long[] want) {
+        long[] got = allTold(hut);
+        for (int i = 0; i < want.length; i++) {
+            due.is(name + ", told " + i, got[i], want[i]);
+        }
+    }
+
+    private static void changeAll(HutBookings hut) {
+        hut.pass(5);
+        hut.set(4, 9);
+    }
+
+    private static void undoBringsAllBack() {
+        HutBookings hut = busyHut();
+        long[] before = allTold(hut);
+        changeAll(hut);
+        due.is("passed", hut.count(0), 8);
+        due.is("undo", hut.undo(), 3);
+        due.is("undo", hut.undo(), 2);
+        same("undo", hut, before);
+        acts(hut);
+    }
+
+    /** One act after the other, each undone. */
+    private static void acts(HutBookings hut) {
+        long[] before = allTold(hut);
+        due.is("book", hut.book(9, 1, 1), 5);
+        hut.undo();
+        same("book", hut, before);
+        due.is("cancel", hut.cancel(3), 20);
+        hut.undo();
+        same("cancel", hut, before);
+        due.is("extend", hut.extend(1, 1), 4);
+        hut.undo();
+        same("extend", hut, before);
+        due.is("weather", hut.weather(3, 9, 6), 7);
+        hut.undo();
+        same("weather", hut, before);
+        due.is("order", hut.order(1, 9), 3);
+        hut.undo();
+        same("order", hut, before);
+        due.is("recall", hut.recall(), 10);
+        hut.undo();
+        same("recall", hut, before);
+        due.is("flight", hut.flight(false), 0);
+        hut.undo();
+        same("flight", hut, before);
+        due.is("set", hut.set(9, 1), 100);
+        hut.undo();
+        same("set", hut, before);
+        due.is("states", hut.count(23), 2);
+    }
+
+    private static void onlyActsAreRecorded() {
+        HutBookings hut = new HutBookings();
+        hut.book(1, 2, 3);
+        hut.type('1');
+        hut.fault();
+        hut.bookAll();
+        hut.clearText();
+        hut.keep();
+        hut.hungryIn();
+        hut.wanting(9);
+        hut.goneIn(0);
+        hut.turnedAway(9);
+        hut.bestCall();
+        hut.fullest();
+        hut.firstFree(1, 1);
+        hut.refund(0);
+        hut.use(0, 9);
+        due.is("one state", hut.count(23), 1);
+        due.is("now", hut.count(0), 0);
+        due.is("booked", hut.booking(0, 0), 0);
+    }
+
+    private static void restoreBringsAllBack() {
+        HutBookings hut = busyHut();
+        due.is("keep", hut.keep(), 3);
+        long[] before = allTold(hut);
+        changeAll(hut);
+        due.is("restore", hut.restore(), 3);
+        same("restore", hut, before);
+        changeAll(hut);
+        due.is("restore once more", hut.restore(), 3);
+        same("restore once more", hut, before);
+    }
+
+    private static void keepReplaces() {
+        HutBookings hut = new HutBookings();
+        due.is("no snapshot", hut.restore(), NONE);
+        due.is("keep", hut.keep(), 0);
+        due.is("keep is no act", hut.count(23), 0);
+        hut.pass(2);
+        due.is("keep", hut.keep(), 2);
+        hut.pass(2);
+        due.is("the second one", hut.restore(), 2);
+        hut.undo();
+        hut.undo();
+        hut.undo();
+        due.is("before all", hut.count(0), 0);
+        due.is("undo leaves the snapshot", hut.restore(), 2);
+    }
+
+    private static void restoreIsAnAct() {
+        HutBookings hut = new HutBookings();
+        hut.keep();
+        hut.order(0, 5);
+        due.is("restore", hut.restore(), 0);
+        due.is("states", hut.count(23), 2);
+        due.is("no orders", hut.count(11), 0);
+        due.is("undo", hut.undo(), 1);
+        due.is("the order", hut.count(11), 1);
+    }
+}
