@@ -17,6 +17,7 @@ public final class BookingsTest {
         cancelGivesBackWhenTheWayIsClosed();
         cancelOfALateGroup();
         cancelNeedsABooking();
+        cancelCountsFromNow();
         extendStaysLonger();
         extendNeedsBeds();
         extendNeedsAnEndThatIsNotPast();
@@ -134,6 +135,17 @@ public final class BookingsTest {
         due.is("cancel", hut.cancel(0), 20);
     }
 
+    private static void cancelCountsFromNow() {
+        HutBookings hut = new HutBookings();
+        hut.book(7, 1, 1);
+        hut.pass(4);
+        due.is("three days before", hut.refund(0), 5);
+        hut.pass(1);
+        due.is("two days before", hut.refund(0), 0);
+        hut.set(4, 2);
+        due.is("of a shorter notice", hut.refund(0), 5);
+    }
+
     private static void cancelNeedsABooking() {
         HutBookings hut = new HutBookings();
         due.is("cancel none", hut.cancel(0), UNKNOWN);
@@ -165,6 +177,7 @@ public final class BookingsTest {
         due.is("no nights", hut.extend(0, 0), BAD_VALUE);
         due.is("10 nights", hut.extend(0, 10), BAD_VALUE);
         due.is("10 nights in all", hut.extend(0, 8), NOT_POSSIBLE);
+        due.is("11 nights in all", hut.extend(0, 9), NOT_POSSIBLE);
         due.is("states", hut.count(23), 2);
         due.is("one more", hut.extend(0, 1), 3);
         due.is("states", hut.count(23), 3);

@@ -84,6 +84,10 @@ public final class DayTest {
         due.is("the first is gone", hut.fresh(0, 0), 1);
         due.is("spoilt", hut.count(18), 12);
         due.is("portions", hut.fresh(29, 1), 12);
+        hut.book(31, 1, 3);
+        hut.pass(1);
+        due.is("of those that keep for just a day more", hut.fresh(0, 0), 2);
+        due.is("they are eaten", hut.fresh(0, 1), 9);
     }
 
     private static void groupsLeaveAndPay() {

@@ -12,6 +12,7 @@ public final class HistoryTest {
         restoreBringsAllBack();
         keepReplaces();
         restoreIsAnAct();
+        nothingIsLeftOfWhatWasUndone();
         due.end();
     }
 
@@ -164,6 +165,29 @@ public final class HistoryTest {
         changeAll(hut);
         due.is("restore once more", hut.restore(), 3);
         same("restore once more", hut, before);
+    }
+
+    private static void nothingIsLeftOfWhatWasUndone() {
+        HutBookings hut = new HutBookings();
+        hut.book(0, 1, 2);
+        hut.keep();
+        hut.book(0, 3, 3);
+        hut.pass(1);
+        hut.undo();
+        hut.undo();
+        due.is("a new one with its number", hut.book(5, 2, 1), 1);
+        due.is("it is booked", hut.booking(1, 0), 0);
+        due.is("it did not sleep", hut.booking(1, 5), 0);
+        due.is("its deposit", hut.booking(1, 7), 10);
+        due.is("it did not come", hut.booking(1, 8), NONE);
+        hut.restore();
+        hut.set(3, 9);
+        hut.book(6, 1, 1);
+        due.is("another deposit", hut.booking(1, 7), 9);
+        hut.undo();
+        hut.undo();
+        due.is("undo restore", hut.undo(), 1);
+        due.is("the former deposit", hut.booking(1, 7), 10);
     }
 
     private static void keepReplaces() {

@@ -85,6 +85,10 @@ public final class NightsTest {
         due.isDouble("behind it", hut.use(6, 6), 0.0);
         hut.set(0, 30);
         due.isDouble("of 30 beds", hut.use(4, 4), 9.0 / 30.0);
+        HutBookings small = new HutBookings();
+        small.set(0, 1);
+        small.book(0, 1, 1);
+        due.isDouble("of one bed", small.use(0, 1), 0.5);
         due.isDouble("from -1", hut.use(-1, 5), -1.0);
         due.isDouble("to 1000", hut.use(5, 1000), -1.0);
         due.isDouble("to before from", hut.use(5, 4), -1.0);
@@ -144,6 +148,9 @@ public final class NightsTest {
     private static void fullestFindsTheFirst() {
         HutBookings hut = new HutBookings();
         due.is("none", hut.fullest(), NONE);
+        hut.book(9, 1, 1);
+        due.is("one person", hut.fullest(), 9);
+        hut.undo();
         hut.book(3, 3, 2);
         due.is("the first of three", hut.fullest(), 3);
         hut.book(5, 2, 2);

@@ -30,6 +30,7 @@ public final class SuppliesTest {
         due.is("changed", hut.day(3, 2), 2);
         due.is("last", hut.day(6, 2), 5);
         due.is("behind", hut.day(7, 2), 0);
+        due.is("fair weather", hut.weather(4, 4, 0), 1);
         due.is("a thousand", hut.weather(0, 999, 7), 1000);
     }
 
