@@ -218,6 +218,14 @@ public final class DayTest {
         hut.pass(1);
         due.is("the rest", hut.count(16), 18);
         due.is("no orders", hut.count(11), 0);
+        HutBookings many = new HutBookings();
+        for (int i = 0; i < 12; i++) {
+            many.order(i % 2, 1);
+        }
+        many.pass(1);
+        due.is("twelve orders on one day", many.count(11), 0);
+        due.is("fresh", many.fresh(0, 1), 6);
+        due.is("dry", many.count(10), 6);
     }
 
     private static void flightsBringPortions() {
