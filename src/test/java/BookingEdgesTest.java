@@ -37,6 +37,7 @@ public final class BookingEdgesTest {
     private static void cancel() {
         asManyDaysAway();
         wayUpClosedOnTheDayOfArrival();
+        cancelOfWhoShouldHaveArrived();
         cancelUnknown();
         cancelNotBooked();
     }
@@ -274,6 +275,27 @@ public final class BookingEdgesTest {
         due.is("these are not kept", hut.coins(2), 10);
         due.is("the hut has what it kept", hut.coins(0), 10);
         due.is("none is held", hut.coins(1), 0);
+        HutBookings later = new HutBookings();
+        later.book(22, 1, 1);
+        later.book(23, 1, 1);
+        later.book(24, 1, 1);
+        later.pass(20);
+        due.is("a day less, on the day 20", later.cancel(0), 0);
+        due.is("as many, on the day 20", later.cancel(1), 5);
+        due.is("a day more, on the day 20", later.cancel(2), 5);
+        due.is("one is kept", later.coins(2), 5);
+    }
+
+    private static void cancelOfWhoShouldHaveArrived() {
+        due.sentence("Promise 4: whose day of arrival is past: its way up was closed");
+        HutBookings hut = new HutBookings();
+        hut.set(4, 30);
+        hut.book(0, 9, 1);
+        hut.weather(0, 0, 1);
+        hut.weather(1, 1, 3);
+        hut.pass(2);
+        due.is("it did not come yet", hut.booking(0, 0), 0);
+        due.is("given back", hut.cancel(0), 45);
     }
 
     private static void wayUpClosedOnTheDayOfArrival() {
@@ -349,6 +371,7 @@ public final class BookingEdgesTest {
         due.is("9 nights are no wrong value", hut.extend(0, 9), NOT_POSSIBLE);
         due.is("its nights", hut.booking(0, 2), 1);
         due.is("8 nights", hut.extend(0, 8), 9);
+        due.is("its deposit stays", hut.booking(0, 7), 5);
         due.is("its nights then", hut.booking(0, 2), 9);
     }
 

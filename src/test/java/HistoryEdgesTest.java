@@ -17,6 +17,7 @@ public final class HistoryEdgesTest {
         droppedManyTimes();
         actsRecord();
         actsAreUndone();
+        nothingIsLeft();
         noActsDoNotRecord();
         emptySnapshot();
         oneSnapshot();
@@ -121,28 +122,18 @@ public final class HistoryEdgesTest {
         due.is("none is left", hut.undo(), NONE);
     }
 
-    /** A hut in which each act can be done, with an empty history and a snapshot. */
-    private static HutBookings ready() {
-        HutBookings hut = new HutBookings();
-        hut.book(0, 2, 1);
-        hut.order(1, 20);
-        hut.pass(1);
-        hut.book(9, 1, 2);
-        hut.undo();
-        hut.undo();
-        hut.undo();
-        hut.undo();
-        hut.keep();
-        return hut;
-    }
-
-    /** A hut in which each act can be done, and of which the history is full. */
+    /** A hut of which the history is full, in which each act can be done and changes something. */
     private static HutBookings busy() {
-        HutBookings hut = ready();
+        HutBookings hut = new HutBookings();
+        hut.keep();
+        hut.set(5, 2);
         hut.book(0, 2, 1);
+        hut.book(2, 1, 3);
+        hut.cancel(1);
+        hut.order(0, 20);
         hut.order(1, 20);
         hut.pass(1);
-        hut.book(9, 1, 2);
+        hut.book(4, 1, 2);
         for (char character : "5+1x1;6+1x1".toCharArray()) {
             hut.type(character);
         }
@@ -153,13 +144,13 @@ public final class HistoryEdgesTest {
         switch (name) {
             case "book": return hut.book(7, 1, 1);
             case "bookAll": return hut.bookAll();
-            case "cancel": return hut.cancel(1);
+            case "cancel": return hut.cancel(2);
             case "extend": return hut.extend(0, 1);
             case "weather": return hut.weather(1, 5, 7);
             case "order": return hut.order(0, 5);
             case "recall": return hut.recall();
             case "flight": return hut.flight(true);
-            case "pass": return hut.pass(3);
+            case "pass": return hut.pass(9);
             case "set": return hut.set(2, 7);
             default: return hut.restore();
         }
@@ -167,20 +158,15 @@ public final class HistoryEdgesTest {
 
     private static void actsRecord() {
         due.sentence("HISTORY: each call of an act records the state that was before it");
-        int[] answers = {2, 2, 10, 3, 5, 2, 8, 0, 4, 20, 0};
+        int[] answers = {3, 2, 10, 3, 5, 3, 20, 0, 10, 20, 0};
         for (int i = 0; i < ACTS.length; i++) {
             HutBookings hut = busy();
             due.is("states", hut.count(23), 4);
-            hut.undo();
-            hut.book(9, 1, 2);
-            hut.undo();
-            due.is("states", hut.count(23), 3);
-            hut.book(9, 1, 2);
             due.is(ACTS[i], act(ACTS[i], hut), answers[i]);
             due.is("states after " + ACTS[i], hut.count(23), 4);
             due.is("undo " + ACTS[i], hut.undo(), 3);
             due.is("the booking before it is undone then", hut.undo(), 2);
-            due.is("bookings", hut.count(1), 1);
+            due.is("bookings", hut.count(1), 2);
         }
     }
 
@@ -199,6 +185,31 @@ public final class HistoryEdgesTest {
             }));
             String difference = Told.difference(after, before);
             due.holds("all is as before " + act + ": " + difference, difference.isEmpty());
+        }
+    }
+
+    private static void nothingIsLeft() {
+        due.sentence("HISTORY: what was undone leaves nothing behind");
+        for (int restored = 0; restored < 2; restored++) {
+            HutBookings hut = new HutBookings();
+            hut.keep();
+            hut.book(0, 1, 2);
+            hut.pass(4);
+            due.is("it was there and is gone", hut.booking(0, 0), 2);
+            if (restored == 1) {
+                hut.restore();
+            } else {
+                hut.undo();
+                due.is("it did not come", hut.booking(0, 8), NONE);
+                due.is("it did not sleep", hut.booking(0, 5), 0);
+                hut.undo();
+            }
+            hut.set(3, 7);
+            due.is("its number is free again", hut.book(9, 2, 3), 0);
+            int[] told = {0, 9, 2, 3, 11, 0, 0, 42, NONE};
+            for (int what = 0; what < told.length; what++) {
+                due.is("booking(0, " + what + ")", hut.booking(0, what), told[what]);
+            }
         }
     }
 
@@ -298,15 +309,16 @@ public final class HistoryEdgesTest {
             hut.weather(1, 3, 2);
             hut.set(0, 7);
             hut.flight(true);
-            hut.cancel(1);
+            hut.book(9, 1, 1);
             hut.keep();
             return hut;
         };
         long[] before = Told.by(kept);
         long[] after = Told.by(() -> {
             HutBookings hut = kept.get();
+            hut.book(3, 1, 1);
+            hut.cancel(4);
             hut.pass(9);
-            hut.book(12, 3, 3);
             hut.set(3, 9);
             hut.restore();
             return hut;

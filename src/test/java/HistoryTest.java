@@ -1,7 +1,8 @@
+import java.util.function.Supplier;
+
 /** Promises 15 (undo), 16 (keep) and 17 (restore). */
 public final class HistoryTest {
     private static final int NONE = HutBookings.NONE;
-    private static final int TOLD = 35;
 
     private static final Due due = new Due("HistoryTest");
 
@@ -56,81 +57,63 @@ public final class HistoryTest {
         return hut;
     }
 
-    private static long[] allTold(HutBookings hut) {
-        long[] told = new long[TOLD + 4 + 9 * 8 + 5 * 30 + 20 + 20];
-        int at = 0;
-        for (int what = 0; what < TOLD; what++) {
-            told[at++] = what == 23 || what == 24 ? 0 : hut.count(what);
-        }
-        for (int what = 0; what < 4; what++) {
-            told[at++] = hut.coins(what);
-        }
-        for (int i = 0; i < 9 * 8; i++) {
-            told[at++] = hut.booking(i / 9, i % 9);
-        }
-        for (int i = 0; i < 5 * 30; i++) {
-            told[at++] = hut.day(i / 5, i % 5);
-        }
-        for (int i = 0; i < 20; i++) {
-            told[at++] = hut.fresh(i / 2, i % 2);
-        }
-        for (int i = 0; i < 20; i++) {
-            told[at++] = hut.waiting(i / 2, i % 2);
-        }
-        return told;
+    private static void same(String name, Supplier<HutBookings> got, Supplier<HutBookings> want) {
+        String difference = Told.difference(Told.by(got), Told.by(want));
+        due.holds("all is the same by " + name + ": " + difference, difference.isEmpty());
     }
 
-    private static void same(String name, HutBookings hut, long[] want) {
-        long[] got = allTold(hut);
-        for (int i = 0; i < want.length; i++) {
-            due.is(name + ", told " + i, got[i], want[i]);
-        }
-    }
-
-    private static void changeAll(HutBookings hut) {
+    private static HutBookings changed(HutBookings hut) {
         hut.pass(5);
         hut.set(4, 9);
+        return hut;
+    }
+
+    private static HutBookings undone(HutBookings hut) {
+        hut.undo();
+        return hut;
     }
 
     private static void undoBringsAllBack() {
-        HutBookings hut = busyHut();
-        long[] before = allTold(hut);
-        changeAll(hut);
+        HutBookings hut = changed(busyHut());
         due.is("passed", hut.count(0), 8);
         due.is("undo", hut.undo(), 3);
         due.is("undo", hut.undo(), 2);
-        same("undo", hut, before);
-        acts(hut);
+        same("undo", () -> undone(undone(changed(busyHut()))), () -> undone(undone(busyTwice())));
+        acts();
     }
 
-    /** One act after the other, each undone. */
-    private static void acts(HutBookings hut) {
-        long[] before = allTold(hut);
-        due.is("book", hut.book(9, 1, 1), 5);
-        hut.undo();
-        same("book", hut, before);
-        due.is("cancel", hut.cancel(3), 20);
-        hut.undo();
-        same("cancel", hut, before);
-        due.is("extend", hut.extend(1, 1), 4);
-        hut.undo();
-        same("extend", hut, before);
-        due.is("weather", hut.weather(3, 9, 6), 7);
-        hut.undo();
-        same("weather", hut, before);
-        due.is("order", hut.order(1, 9), 3);
-        hut.undo();
-        same("order", hut, before);
-        due.is("recall", hut.recall(), 10);
-        hut.undo();
-        same("recall", hut, before);
-        due.is("flight", hut.flight(false), 0);
-        hut.undo();
-        same("flight", hut, before);
-        due.is("set", hut.set(9, 1), 100);
-        hut.undo();
-        same("set", hut, before);
-        due.is("states", hut.count(23), 2);
+    /** Two acts more that change little, so that as many states are recorded. */
+    private static HutBookings busyTwice() {
+        HutBookings hut = busyHut();
+        hut.set(9, 99);
+        hut.set(9, 100);
+        return hut;
+    }
+
+    /** Each act, undone. */
+    private static void acts() {
+        isUndone("book", hut -> hut.book(9, 1, 1), 5);
+        isUndone("cancel", hut -> hut.cancel(3), 20);
+        isUndone("extend", hut -> hut.extend(1, 1), 4);
+        isUndone("weather", hut -> hut.weather(3, 9, 6), 7);
+        isUndone("order", hut -> hut.order(1, 9), 3);
+        isUndone("recall", HutBookings::recall, 10);
+        isUndone("flight", hut -> hut.flight(false), 0);
+        isUndone("set", hut -> hut.set(9, 1), 100);
+        isUndone("pass", hut -> hut.pass(30), 33);
+    }
+
+    private static void isUndone(String name, Told.Call act, long answer) {
+        due.is(name, act.on(busyHut()), answer);
+        same(name, () -> {
+            HutBookings hut = busyHut();
+            act.on(hut);
+            return undone(hut);
+        }, () -> {
+            HutBookings hut = busyHut();
+            hut.set(9, 99);
+            return undone(hut);
+        });
     }
 
     private static void onlyActsAreRecorded() {
@@ -155,16 +138,26 @@ public final class HistoryTest {
         due.is("booked", hut.booking(0, 0), 0);
     }
 
-    private static void restoreBringsAllBack() {
+    private static HutBookings kept() {
         HutBookings hut = busyHut();
+        hut.keep();
+        return hut;
+    }
+
+    private static HutBookings restored(HutBookings hut) {
+        hut.restore();
+        return hut;
+    }
+
+    private static void restoreBringsAllBack() {
+        HutBookings hut = kept();
         due.is("keep", hut.keep(), 3);
-        long[] before = allTold(hut);
-        changeAll(hut);
+        changed(hut);
         due.is("restore", hut.restore(), 3);
-        same("restore", hut, before);
-        changeAll(hut);
+        changed(hut);
         due.is("restore once more", hut.restore(), 3);
-        same("restore once more", hut, before);
+        same("restore", () -> restored(changed(kept())), HistoryTest::busyHut);
+        same("restore once more", () -> restored(changed(restored(changed(kept())))), HistoryTest::busyHut);
     }
 
     private static void nothingIsLeftOfWhatWasUndone() {

@@ -1,7 +1,9 @@
 /** Long runs of calls, made by a fixed sequence of numbers, on HutBookings and on PlainHut. */
 public final class ModelTest {
-    private static final int RUNS = 400;
+    private static final int RUNS = 800;
+    // Nothing is promised of an object after that.
     private static final int CALLS = 512;
+    private static final int CALLS_AT_ONCE = 50;
     private static final String SIGNS = "0123456789+x;";
     private static final int[] SETTING_MOST = {40, 20, 99, 99, 30, 30, 50, 99, 20, 999};
 
@@ -12,6 +14,7 @@ public final class ModelTest {
     private final int run;
     private final int span;
     private long seed;
+    private int calls;
 
     private ModelTest(int run) {
         this.run = run;
@@ -23,9 +26,10 @@ public final class ModelTest {
         for (int run = 0; run < RUNS; run++) {
             ModelTest test = new ModelTest(run);
             test.prepare();
-            for (int call = 0; call < CALLS - 40; call++) {
+            for (int call = 0; call < CALLS && test.calls <= CALLS - CALLS_AT_ONCE; call++) {
                 test.call(call);
             }
+            due.holds("run " + run + " made no more calls than an object answers", test.calls <= CALLS);
         }
         due.end();
     }
@@ -41,6 +45,7 @@ public final class ModelTest {
     }
 
     private void due(int call, String name, long got, long want) {
+        calls++;
         due.is("run " + run + ", call " + call + ": " + name, got, want);
     }
 
@@ -162,6 +167,7 @@ public final class ModelTest {
         int b = someBooking();
         if (kind < 62) {
             int to = a + between(-1, 40);
+            calls++;
             due.isDouble("run " + run + ", call " + call + ": use(" + a + ", " + to + ")", hut.use(a, to),
                 plain.use(a, to));
         } else if (kind < 66) {

@@ -330,6 +330,11 @@ public final class TellingEdgesTest {
         due.isDouble("of more beds", hut.use(5, 5), 3.0 / 40.0);
         hut.cancel(0);
         due.isDouble("not of one cancelled", hut.use(4, 5), 1.0 / 80.0);
+        HutBookings one = new HutBookings();
+        one.set(0, 1);
+        one.book(0, 1, 1);
+        due.isDouble("the only bed", one.use(0, 0), 1.0);
+        due.isDouble("in one of three nights", one.use(0, 2), 1.0 / 3.0);
     }
 
     private static void firstFreeRange() {
