@@ -548,7 +548,7 @@ public final class HutBookings {
 
         int daysWithOtherWeather(int from, int to, int weather) {
             int days = 0;
-            for (int day = from; day <= to; day++) {
+            for (int day = from; day <= to && day <= LAST_DAY; day++) {
                 if (weatherOf(day) != weather) {
                     days++;
                 }
@@ -931,8 +931,9 @@ public final class HutBookings {
         int throwSpoiltAway(int today, int keeps) {
             int spoilt = 0;
             for (int day = today - KEEPS_MOST; day <= today - keeps; day++) {
-                spoilt += freshOf(day);
-                fresh[slotOf(day)] = 0;
+                int slot = slotOf(day);
+                spoilt += fresh[slot];
+                fresh[slot] = 0;
             }
             return spoilt;
         }
@@ -948,8 +949,9 @@ public final class HutBookings {
         int eat(int persons, int today) {
             int eaten = 0;
             for (int day = today - KEEPS_MOST + 1; day <= today; day++) {
-                int portions = Math.min(persons - eaten, freshOf(day));
-                fresh[slotOf(day)] -= portions;
+                int slot = slotOf(day);
+                int portions = Math.min(persons - eaten, fresh[slot]);
+                fresh[slot] -= portions;
                 eaten += portions;
             }
             int portions = Math.min(persons - eaten, dry);
